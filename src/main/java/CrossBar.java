@@ -1295,7 +1295,7 @@ public final class CrossBar {
             for (int i = 0; i < markers && waiting > 0; i++) {
                 int line = queue[0];
                 leaveQueue(0);
-                made += serve(line, called[line]);
+                made += plan.hasLine(line) ? serve(line, called[line]) : 0;
             }
             for (int l = 0; l < plan.lines; l++) {
                 if (hasMadeConnection(l)) {

@@ -5,6 +5,9 @@ final class TeachTest {
 
     public static void main(String[] args) {
         replacesAll();
+        replacesTests();
+        looksAtNothingBehindTheEnd();
+        namesDiffer();
         anErrorChangesNothing();
         tokens();
         grammar();
@@ -74,6 +77,53 @@ final class TeachTest {
         }
         Due.is("tick stays again", x.count(0), 5);
         Due.is("pass(1) with nothing", x.pass(1), 0);
+    }
+
+    private static void replacesTests() {
+        String plan = "switch a bars 1;switch b bars 1;trunk t from a to b wires 1 cost 1;";
+        CrossBar x = Due.told(plan + "shut t when tick >= 0;".repeat(12));
+        Due.is("trunk(0, 5) shut", x.trunk(0, 5), 1);
+        Due.is("teach() of as many again", Due.teach(x, plan + "shut t when tick < 0;".repeat(12)), 0);
+        Due.is("count(4) of as many again", x.count(4), 12);
+        Due.is("trunk(0, 5) of as many again", x.trunk(0, 5), 0);
+        Due.is("teach() with an error behind tests", Due.teach(x, plan + "shut t when tick >= 0; shut u when tick > 0;"), 3);
+        Due.is("count(4) stays", x.count(4), 12);
+        Due.is("trunk(0, 5) stays", x.trunk(0, 5), 0);
+        Due.is("teach() without tests", Due.teach(x, plan), 0);
+        Due.is("count(4) without tests", x.count(4), 0);
+        Due.is("trunk(0, 5) without tests", x.trunk(0, 5), 0);
+    }
+
+    /** Bytes that were cut off stand no longer on the tape. */
+    private static void looksAtNothingBehindTheEnd() {
+        String[] whole = {"shut t when tick <=", "shut t when tick >=", "switch abc bars 12", "switch ab"};
+        for (String plan : whole) {
+            CrossBar x = new CrossBar();
+            Due.feed(x, plan);
+            x.trim(plan.length() - 1);
+            Due.is("teach() of a part of " + plan, x.teach(), 1);
+            Due.is("errorAt() of a part of " + plan, x.errorAt(), plan.length() - 1);
+        }
+    }
+
+    private static void namesDiffer() {
+        String signs = "abcdefghijklmnopqrstuvwxyz0123456789";
+        for (int i = 0; i < signs.length(); i++) {
+            CrossBar x = new CrossBar();
+            for (int k = 0; k < signs.length(); k += 5) {
+                StringBuilder plan = new StringBuilder();
+                String own = "q" + signs.charAt(i);
+                boolean again = false;
+                for (int s = k; s < k + 5 && s < signs.length(); s++) {
+                    plan.append("switch q").append(signs.charAt(s)).append(" bars 1;");
+                    again |= s == i;
+                }
+                plan.append("switch ").append(own).append(" bars 1;");
+                Due.is("teach() of " + plan, Due.teach(x, plan.toString()), again ? 2 : 0);
+            }
+        }
+        good("switch q bars 1;switch qa bars 1;switch qaa bars 1;switch q0 bars 1;switch q00 bars 1;switch qqqqqqqqqq bars 1;");
+        good("switch abcdefghij bars 1;switch abcdefghik bars 1;switch bbcdefghij bars 1;switch abcdeghij bars 1;");
     }
 
     private static void anErrorChangesNothing() {

@@ -151,8 +151,13 @@ final class TicksTest {
         x.hang(4);
         x.pass(5);
         Due.is("count(9)", x.count(9), 70);
-        x.hang(2);
-        Due.call(x, 2, "2");
+        x.hang(0);
+        Due.call(x, 4, "1");
+        x.pass(2);
+        x.lift(0);
+        x.pass(1);
+        Due.is("wire(4, 2) of the next connection", x.wire(4, 2), 2);
+        Due.is("wire(4, 3) of the next connection", x.wire(4, 3), 1);
         CrossBar y = Due.told("switch a bars 1;line l at a dials 1;line m at a dials 2;");
         Due.call(y, 0, "2");
         y.pass(1);

@@ -11,6 +11,7 @@ final class WaysTest {
         fewestTrunks();
         smallestTrunks();
         held();
+        throughAlone();
         sameSwitch();
         most();
         mostGoesRound();
@@ -74,6 +75,15 @@ final class WaysTest {
         way(x, 2, 3, -1, 0);
     }
 
+    /** Each call looks for itself: none leans on what the one ahead of it found. */
+    private static void throughAlone() {
+        CrossBar x = Due.told(square(1, 2, 2, 2, 9) + "line n at c dials 3;");
+        Due.is("through(0, 1) first", x.through(0, 1), 11);
+        Due.is("through(1, 2) next", x.through(1, 2), 12);
+        Due.is("way(0, 2) next", x.way(0, 2), 2);
+        Due.is("through(0, 1) again", x.through(0, 1), 11);
+    }
+
     private static void sameSwitch() {
         CrossBar x = Due.told("switch a bars 1;switch b bars 1;line l at a dials 1;line m at a dials 2;line n at b dials 3;"
             + "trunk t from a to b wires 9 cost 1;");
@@ -128,6 +138,9 @@ final class WaysTest {
         isMost(String.format(ends, 9, 9), 0, 3, 2, -1);
         isMost(String.format(ends, 1, 1), 0, 3, 2, -1);
         isMost(String.format(ends, 9, 9).replace("trunk fd from f to d", "trunk fd from f to e"), 0, 3, 1, 2);
+        isMost("switch a bars 9;switch b bars 1;switch c bars 1;switch d bars 9;trunk t from c to b wires 1 cost 1;"
+            + "trunk u from d to c wires 1 cost 1;trunk v from d to b wires 2 cost 1;trunk w from c to a wires 3 cost 1;"
+            + "trunk x from a to b wires 1 cost 1;", 0, 3, 2, -1);
     }
 
     private static void parts() {
