@@ -1,4 +1,5 @@
 import java.nio.charset.StandardCharsets;
+import java.util.function.IntConsumer;
 
 /** What the tests share: calls with the answers that are due, and plans fed as text. */
 final class Due {
@@ -70,6 +71,32 @@ final class Due {
         is("teach() of " + plan, teach(x, plan), 0);
         is("errorAt() of " + plan, x.errorAt(), -1);
         return x;
+    }
+
+    /** A plan on a new object: its error, the position of that one, and the tape behind it. */
+    static void error(String plan, int error, int at) {
+        CrossBar x = new CrossBar();
+        is("teach() of " + plan, teach(x, plan), error);
+        is("errorAt() of " + plan, x.errorAt(), error == 0 ? -1 : at);
+        is("tape behind " + plan, x.count(10), 0);
+    }
+
+    static void good(String plan) {
+        error(plan, 0, -1);
+    }
+
+    /** The error is where the mark is. */
+    static void marked(int error, String plan) {
+        error(plan.replace("@", ""), error, plan.indexOf('@'));
+    }
+
+    /** Each of these numbers, as what, is refused; so are the least and the greatest number. */
+    static void isRefused(CrossBar x, String call, Class<? extends Exception> due, IntConsumer c, int... whats) {
+        for (int what : whats) {
+            isThrown(x, call + " with " + what, due, () -> c.accept(what));
+        }
+        isThrown(x, call + " with the least number", due, () -> c.accept(Integer.MIN_VALUE));
+        isThrown(x, call + " with the greatest number", due, () -> c.accept(Integer.MAX_VALUE));
     }
 
     /** Dials all digits, and answers what the line does then. */

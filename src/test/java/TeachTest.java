@@ -21,20 +21,15 @@ final class TeachTest {
     }
 
     private static void error(String plan, int error, int at) {
-        CrossBar x = new CrossBar();
-        Due.is("teach() of " + plan, Due.teach(x, plan), error);
-        Due.is("errorAt() of " + plan, x.errorAt(), error == 0 ? -1 : at);
-        Due.is("tape behind " + plan, x.count(10), 0);
+        Due.error(plan, error, at);
     }
 
     private static void good(String plan) {
-        error(plan, 0, -1);
+        Due.good(plan);
     }
 
-    /** The error is where the mark is. */
     private static void marked(int error, String plan) {
-        int at = plan.indexOf('@');
-        error(plan.replace("@", ""), error, at);
+        Due.marked(error, plan);
     }
 
     private static void wrongTest(String test) {
