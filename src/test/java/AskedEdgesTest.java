@@ -20,6 +20,7 @@ final class AskedEdgesTest {
         mostOverSeveralWays();
         mostHoweverManyLines();
         mostIfNothingWasHeldOrShut();
+        mostOfTheGreatestPlan();
         partsPairs();
         partsInARow();
         partsNoneIfThereIsAnother();
@@ -83,6 +84,8 @@ final class AskedEdgesTest {
         String apart = "switch a bars 1;switch b bars 1;switch c bars 1;line l at a dials 0;line m at b dials 1;"
             + "line n at c dials 2;trunk t from b to c wires 1 cost 1;";
         CrossBar x = Due.told(apart);
+        Due.is("through(1, 2) alone", x.through(1, 2), 6);
+        Due.is("through(0, 2) behind it", x.through(0, 2), 0);
         way(x, 0, 1, -1, 0);
         way(x, 0, 2, -1, 0);
         way(x, 2, 0, -1, 0);
@@ -232,6 +235,28 @@ final class AskedEdgesTest {
         Due.is("trunk(0, 3)", x.trunk(0, 3), 2);
         most(x, 0, 1, 2);
         Due.is("advise(0, 1)", x.advise(0, 1), -1);
+    }
+
+    /** Six switches in a ring, four trunks more beside one of it: as many as a plan can have. */
+    private static void mostOfTheGreatestPlan() {
+        StringBuilder plan = new StringBuilder();
+        for (int s = 0; s < 6; s++) {
+            plan.append("switch s" + s + " bars 9;line l" + s + " at s" + s + " dials " + s + ";");
+        }
+        for (int t = 0; t < 10; t++) {
+            int from = t < 6 ? t : 5;
+            plan.append("trunk t" + t + " from s" + from + " to s" + (from + 1) % 6 + " wires 1 cost " + (20 - t) + ";");
+        }
+        CrossBar x = Due.told(plan.toString());
+        most(x, 0, 3, 2);
+        most(x, 0, 5, 6);
+        Due.is("advise(0, 5)", x.advise(0, 5), 5);
+        Due.is("advise(2, 3)", x.advise(2, 3), 2);
+        Due.is("advise(0, 3)", x.advise(0, 3), -1);
+        Due.is("parts(9)", x.parts(9), 0);
+        way(x, 0, 5, 11, 33);
+        way(x, 0, 3, 11 + 16 + 17, 57);
+        way(x, 0, 2, 20 + 19, 7);
     }
 
     // ---- promise 18
@@ -545,9 +570,8 @@ final class AskedEdgesTest {
 
     /** For each of the following numbers x, d becomes d * 31 + x, which wraps around as a 64-bit integer. */
     private static void digestOfAll() {
-        String more = "switch b bars 2;line m at b dials 91;trunk t from a to b wires 2 cost 7;trunk u from b to a wires 1 cost 3;"
-            + "shut u when tick > 1;switch c bars 3;"
-            + "trunk v from c to b wires 1 cost 1;";
+        String more = "switch b bars 2;line m at b dials 91;switch c bars 3;trunk t from a to b wires 2 cost 7;"
+            + "trunk u from b to c wires 1 cost 3;shut u when tick > 1;trunk v from c to b wires 1 cost 1;";
         for (int state = 0; state < States.ALL; state++) {
             CrossBar x = States.with(state, more);
             Due.is("digest() in state " + state, x.digest(), reckoned(x));

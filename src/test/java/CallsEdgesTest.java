@@ -199,11 +199,32 @@ final class CallsEdgesTest {
             Due.is("dial(0, 5)", x.dial(0, 5), 2);
             Due.is("line(0, 5)", x.line(0, 5), 0);
         }
+        lessThanAhead();
         CrossBar x = States.with(States.TALKS);
         Due.is("teach() of nothing", x.teach(), 0);
         for (int what = 1; what <= 7; what++) {
             Due.is("count(" + what + ") of nothing", x.count(what), 0);
         }
+    }
+
+    /** Neither tests nor trunks nor lines are left of a plan that had more of them. */
+    private static void lessThanAhead() {
+        String ends = "switch a bars 9;switch b bars 9;line l at a dials 0;line m at b dials 1;";
+        String trunk = "trunk t from a to b wires 2 cost 3;";
+        CrossBar x = Due.told(ends + trunk + "trunk u from a to b wires 3 cost 1;line n at a dials 2;"
+            + "shut u when tick < 0;shut t when tick >= 0;");
+        Due.is("trunk(0, 5)", x.trunk(0, 5), 1);
+        Due.is("teach() of less", Due.teach(x, ends + trunk), 0);
+        Due.is("trunk(0, 5) without tests", x.trunk(0, 5), 0);
+        Due.is("most(0, 1) with one trunk", x.most(0, 1), 2);
+        Due.is("advise(0, 1) with one trunk", x.advise(0, 1), 0);
+        Due.is("way(0, 1) with one trunk", x.way(0, 1), 3);
+        Due.is("parts(0) with one trunk", x.parts(0), 1);
+        Due.is("frame(0, 2)", x.frame(0, 2), 1);
+        Due.is("frame(0, 3)", x.frame(0, 3), 1);
+        Due.is("the digits of a line that is gone", Due.call(x, 0, "2"), 7);
+        Due.isThrown(x, "line(2, 0)", INDEX, () -> x.line(2, 0));
+        Due.isThrown(x, "trunk(1, 0)", INDEX, () -> x.trunk(1, 0));
     }
 
     /** The tick and the markers stay. */
@@ -651,6 +672,10 @@ final class CallsEdgesTest {
         Due.is("line(1, 3) that is idle", x.line(1, 3), 0);
         x.lift(1);
         Due.is("line(1, 3) lifted again", x.line(1, 3), 0);
+        CrossBar y = States.with(States.CALLS);
+        y.pass(11);
+        Due.is("line(0, 3) behind 12 ticks", y.line(0, 3), 1);
+        Due.is("line(1, 3) behind 12 ticks", y.line(1, 3), 0);
     }
 
     /** 4 the line that these call, -1 for none. */
@@ -667,6 +692,10 @@ final class CallsEdgesTest {
         Due.is("line(1, 4), that is number 0", x.line(1, 4), 0);
         x.hang(0);
         Due.is("line(0, 4) hung up", x.line(0, 4), -1);
+        CrossBar y = States.with(States.CALLS);
+        y.pass(11);
+        Due.is("line(0, 4) behind 12 ticks", y.line(0, 4), 1);
+        Due.is("line(1, 4) behind 12 ticks", y.line(1, 4), -1);
     }
 
     /** 5 its place among those that wait, from 0, -1 if it does not. */

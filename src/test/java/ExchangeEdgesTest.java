@@ -572,6 +572,15 @@ final class ExchangeEdgesTest {
             y.pass(ticks);
             does(y, ticks < 12 ? "34" : "70");
         }
+        for (int start = 1; start <= 13; start++) {
+            CrossBar y = Due.told(States.plan());
+            y.pass(start);
+            Due.call(y, 0, "1");
+            y.pass(11);
+            does(y, "34");
+            y.pass(1);
+            does(y, "70");
+        }
     }
 
     /** Each connection: they began to ring one behind the other, and so they end. */

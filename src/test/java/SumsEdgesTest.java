@@ -32,9 +32,13 @@ final class SumsEdgesTest {
         return "(" + (n >> 16) + " * 65536 + " + (n & 65535) + ")";
     }
 
+    /** Whether the test shuts its trunk; it leaves those on both sides open. */
     private static int shut(String test) {
-        return Due.told(States.plan() + "switch b bars 1;trunk t from a to b wires 2 cost 1;shut t when " + test + ";")
-            .trunk(0, 5);
+        CrossBar x = Due.told(States.plan() + "switch b bars 1;trunk s from a to b wires 2 cost 1;"
+            + "trunk t from a to b wires 2 cost 1;trunk u from a to b wires 2 cost 1;shut t when " + test + ";");
+        Due.is("the trunk ahead of " + test, x.trunk(0, 5), 0);
+        Due.is("the trunk behind " + test, x.trunk(2, 5), 0);
+        return x.trunk(1, 5);
     }
 
     private static void holds(String test) {
