@@ -632,23 +632,17 @@ public final class CrossBar {
                 case IDLE:
                     return takeBoth(Kind.IDLE, Kind.NAME) && tests.add(Kind.IDLE, first + 1);
                 default:
-                    return sum(depth) && comparison(depth);
+                    if (!sum(depth)) {
+                        return false;
+                    }
+                    int sign = tokens.next;
+                    return takeComparison() && sum(depth) && tests.add(tokens.kind(sign), sign);
             }
         }
 
-        private boolean comparison(int depth) {
-            int sign = tokens.next;
-            Kind kind = tokens.kind(sign);
-            switch (kind) {
-                case LESS:
-                case MORE:
-                case EQUAL:
-                case AT_MOST:
-                case AT_LEAST:
-                    return tokens.take(kind) && sum(depth) && tests.add(kind, sign);
-                default:
-                    return false;
-            }
+        private boolean takeComparison() {
+            return tokens.take(Kind.LESS) || tokens.take(Kind.MORE) || tokens.take(Kind.EQUAL)
+                || tokens.take(Kind.AT_MOST) || tokens.take(Kind.AT_LEAST);
         }
 
         private boolean sum(int depth) {
